@@ -108,7 +108,7 @@ public final class LanguageTest {
         String[] lines = source.split("\n");
         for (int i = 0; i < lines.length; i++) {
             if (lines[i].matches("( {4}| {8})[a-zA-Z].*\\) \\{")) start = i;
-            if (lines[i].matches(" {4}| {8}\\}") && start > 0) {
+            if (lines[i].matches("( {4}| {8})\\}") && start > 0) {
                 check(i - start < MOST_LINES, "the method at line " + (start + 1) + " is too long");
                 start = 0;
             }

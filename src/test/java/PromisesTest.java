@@ -406,6 +406,7 @@ public final class PromisesTest {
         due("near(5, 0)", x.near(5, 0), true);
         due("near(0, 4), askew", x.near(0, 4), false);
         due("near(2, 3)", x.near(2, 3), true);
+        due("near(4, 0), askew", x.near(4, 0), false);
         due("near(1, 3), askew", x.near(1, 3), false);
         due("near(0, 0)", x.near(0, 0), false);
         due("near(0, 6)", x.near(0, 6), false);
@@ -623,6 +624,12 @@ public final class PromisesTest {
         due("again()", x.again(), MISSING);
         x.drive(0, 0, 0);
         due("a drive that isn't refused counts nothing", x.again(), MISSING);
+        x.undo();
+        x.lane(4, 1, 50, 0, 1);
+        due("place 0", x.drive(0, 4, 0), 0);
+        due("nor one that answers 0", x.again(), MISSING);
+        x.out(0, 0);
+        x.drive(0, 0, 0);
         x.out(0, 1);
         due("an out counts nothing", x.again(), MISSING);
         x.drive(0, 0, 0);
@@ -672,6 +679,8 @@ public final class PromisesTest {
         due("lean(-1)", x.lean(-1), 0);
         x.drive(4, 5, 0);
         due("a port beyond the day counts", x.lean(2), -1_999_999_930L);
+        due("but there is no leg to it", x.lean(3), 0);
+        due("lean(11)", x.lean(11), 0);
         x.undo();
         x.sail();
         due("lean(0)", x.lean(0), -5_999_999_930L);
@@ -996,6 +1005,8 @@ public final class PromisesTest {
         due("the plan is none", x.planned(0, 0), -1);
         costsMoreThanNothing();
         leansAndDraws();
+        leansByLegs();
+        coachBesideAnimal();
     }
 
     private static void costsMoreThanNothing() {
@@ -1045,6 +1056,54 @@ public final class PromisesTest {
         x.sail();
         for (int i = 0; i < 3; i++) x.arrive();
         due("NEVER, the drawer is gone", x.least(), NEVER);
+    }
+
+    /** Each leg counts for itself: the heavy car may stand alone on its side only as long as the other is aboard. */
+    private static void leansByLegs() {
+        FerryDeck x = new FerryDeck();
+        x.lane(0, 5, 50, -1, 3);
+        x.lane(1, 5, 50, 1, 3);
+        x.day(2, 8);
+        x.load(CAR, 5, 128, 0, 0);
+        x.load(CAR, 5, 64, 1, 0);
+        due("the heavy one leaves first", x.least(), 0);
+        due("planned(0, 0)", x.planned(0, 0), 0);
+        due("planned(1, 0)", x.planned(1, 0), 1);
+        x.day(2, 7);
+        due("NEVER, each leg is beyond by one", x.least(), NEVER);
+        x = new FerryDeck();
+        x.lane(0, 5, 50, -1, 3);
+        x.lane(1, 5, 50, 1, 3);
+        x.day(2, 15);
+        x.load(CAR, 5, 64, 0, 0);
+        x.load(CAR, 5, 128, 1, 0);
+        due("NEVER, the heavy one stays alone", x.least(), NEVER);
+        x.day(2, 16);
+        due("at the LIMIT", x.least(), 0);
+        due("planned(1, 0)", x.planned(1, 0), 1);
+    }
+
+    private static void coachBesideAnimal() {
+        FerryDeck x = new FerryDeck();
+        x.lane(4, 3, 30, 0, 1);
+        x.lane(5, 2, 30, 0, 1);
+        x.load(COACH, 10, 0, 0, 0);
+        car(x, 0);
+        x.load(ANIMAL, 10, 0, 0, 1);
+        due("NEVER, the animal is beside the coach", x.least(), NEVER);
+        x.miss(5);
+        x.lane(6, 2, 30, 0, 1);
+        due("a missing lane between", x.least(), 0);
+        x.miss(6);
+        x.lane(5, 5, 30, 0, 1);
+        due("behind the coach's last place", x.least(), 0);
+        due("planned(2, 1)", x.planned(2, 1), 3);
+        x.lane(4, 3, 29, 0, 1);
+        due("the coach is too high for lane 4", x.least(), 0);
+        due("planned(0, 0)", x.planned(0, 0), 5);
+        due("planned(0, 1)", x.planned(0, 1), 2);
+        due("planned(1, 0)", x.planned(1, 0), 4);
+        due("planned(2, 1)", x.planned(2, 1), 1);
     }
 
     private static void promise32() {
@@ -1118,24 +1177,24 @@ public final class PromisesTest {
         due("step", x.step(1, 0, 0, 0), 1);
     }
 
-    /** A day of busyDay() as steps, from the quay to the second port. */
+    /** A day of busyDay() as steps, from the quay to the last port. */
     private static void tellBusyDay(FerryDeck x) {
         int[][] steps = {{7, 0, 0, 0}, {1, 6, 0, 0}, {2, 6, 0, 9}, {1, 6, 0, 0}, {3, 0, 0, 0}, {4, 3, 0, 0},
-            {5, 0, 6, 0}, {5, 2, 2, 0}, {6, 2, 3, 0}, {4, 1, 0, 0}, {5, 0, 2, 0}};
+            {5, 0, 6, 0}, {5, 2, 2, 0}, {6, 2, 3, 0}, {4, 1, 0, 0}, {5, 0, 2, 0}, {4, 0, 0, 0}};
         for (int[] s : steps) x.step(s[0], s[1], s[2], s[3]);
     }
 
     private static void promise36() {
         FerryDeck x = busyDay();
         tellBusyDay(x);
-        due("check()", x.check(), 11);
+        due("check()", x.check(), 12);
         due("nothing is changed", x.ship(0), 0);
         due("nothing is changed", x.ship(6), 7);
         due("nothing is changed", x.ship(3), 7);
         due("nothing is changed", x.moved(0), -1);
-        due("check() again", x.check(), 11);
+        due("check() again", x.check(), 12);
         x.step(5, 1, -1, 0);
-        due("b is -1", x.check(), 11);
+        due("b is -1", x.check(), 12);
         x.forget();
         x.step(6, 0, -1, 0);
         due("b is -1", x.check(), 0);
@@ -1238,6 +1297,56 @@ public final class PromisesTest {
         due("ship(4)", x.ship(4), 1);
         due("arrive()", x.arrive(), 0);
         due("left(0)", x.left(0), 1);
+        planAndLatestPortAreKept();
+    }
+
+    private static void planAndLatestPortAreKept() {
+        FerryDeck x = threeLanes();
+        car(x, 0);
+        x.keep(0);
+        x.least();
+        x.keep(1);
+        x.back(0);
+        due("no plan was kept", x.planned(0, 0), -1);
+        x.miss(0);
+        x.least();
+        due("another plan", x.planned(0, 0), 1);
+        x.back(1);
+        due("the plan's lane", x.planned(0, 0), 0);
+        due("the plan's place", x.planned(0, 1), 4);
+        x = busyDay();
+        x.sail();
+        x.arrive();
+        x.keep(0);
+        x.arrive();
+        x.arrive();
+        x.back(0);
+        int[] moved = {6, 0, 2, -1};
+        for (int i = 0; i < 4; i++) due("moved(" + i + ")", x.moved(i), moved[i]);
+        int[] left = {5, 1, 3, -1};
+        for (int i = 0; i < 4; i++) due("left(" + i + ")", x.left(i), left[i]);
+        due("ship(5)", x.ship(5), 3);
+        x = new FerryDeck();
+        x.lane(0, 5, 50, 1, 3);
+        x.load(VAN, 6, 80, 0, 0);
+        x.load(CART, 6, 80, 0, 0);
+        x.day(2, 77);
+        x.drive(0, 0, 0);
+        x.out(0, 1);
+        x.chock(0, 3);
+        x.keep(0);
+        x.undo();
+        x.day(3, 5);
+        x.miss(0);
+        x.back(0);
+        due("kind", x.of(0, 0), VAN);
+        due("tall", x.of(0, 2), 16);
+        due("drawer", x.drawer(1), 0);
+        due("a chock lies", x.lane(0, 5, 50, 1, 3), TAKEN);
+        due("undo chock", x.undo(), 1);
+        due("undo out", x.undo(), 1);
+        due("at(0, 4)", x.at(0, 4), 0);
+        due("sail() within the LIMIT", x.sail(), 1);
     }
 
     private static void promise39() {

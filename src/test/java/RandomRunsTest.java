@@ -275,7 +275,12 @@ public final class RandomRunsTest {
         lookAtAll();
         sailOn();
         lookAtAll();
+        call("keep", 1);
         call("back", 0);
+        lookAtAll();
+        call("load", 1 + upTo(2), 10, upTo(50), upTo(4), 0);
+        call("least");
+        call("back", upTo(2));
         lookAtAll();
     }
 
