@@ -1316,8 +1316,11 @@ public final class FerryDeck {
             return ship.loads.kind[number[load]];
         }
 
-        /** Each level drives one load more or goes on to the next lane, so there are at most nine levels and one. */
+        /** Each level drives one load more or goes on to the next lane, so there are at most nine levels. */
         private void search(int lane, int driven, int cost) {
+            if (cost > bestCost || cost == bestCost && !canBeLower(lane)) {
+                return;
+            }
             for (int load = 0; load < loadCount; load++) {
                 if (laneOf[load] == NOTHING && fits(load, lane, driven)) {
                     put(load, lane, driven);
@@ -1326,15 +1329,11 @@ public final class FerryDeck {
                     laneOf[load] = NOTHING;
                 }
             }
-            int costWithLane = cost + costOf(lane, driven);
-            if (costWithLane > bestCost) {
-                return;
-            }
             if (lane + 1 < laneCount) {
                 start[lane + 1] = driven;
-                search(lane + 1, driven, costWithLane);
+                search(lane + 1, driven, cost + costOf(lane, driven));
             } else if (driven == loadCount) {
-                weigh(costWithLane);
+                weigh(cost + costOf(lane, driven));
             }
         }
 
@@ -1427,7 +1426,7 @@ public final class FerryDeck {
         }
 
         private void weigh(int cost) {
-            if (cost == bestCost && !isLower() || leans()) {
+            if (cost > bestCost || cost == bestCost && !canBeLower(laneCount - 1) || leans()) {
                 return;
             }
             bestCost = cost;
@@ -1440,11 +1439,18 @@ public final class FerryDeck {
             plan.size = loadCount;
         }
 
-        private boolean isLower() {
+        /**
+         * Whether what is driven so far can still come ahead of THE PLAN at equal COST, if all the others stand in this
+         * lane or in lanes behind it. Once all are driven: whether it does.
+         */
+        private boolean canBeLower(int lane) {
             for (int i = 0; i < loadCount; i++) {
-                int lane = deck[laneOf[i]];
-                if (lane != ship.plan.lane[i]) {
-                    return lane < ship.plan.lane[i];
+                int its = ship.plan.lane[i];
+                if (laneOf[i] == NOTHING) {
+                    return deck[lane] <= its;
+                }
+                if (deck[laneOf[i]] != its) {
+                    return deck[laneOf[i]] < its;
                 }
                 if (placeOf[i] != ship.plan.place[i]) {
                     return placeOf[i] < ship.plan.place[i];

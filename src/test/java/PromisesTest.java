@@ -1314,6 +1314,15 @@ public final class PromisesTest {
         x.back(1);
         due("the plan's lane", x.planned(0, 0), 0);
         due("the plan's place", x.planned(0, 1), 4);
+        x.drive(0, 0, 0);
+        x.sail();
+        for (int i = 0; i < 3; i++) x.arrive();
+        car(x, 1);
+        x.least();
+        due("load 1 alone is planned", x.planned(1, 0), 0);
+        x.back(1);
+        due("the plan's load", x.planned(0, 0), 0);
+        due("the other load", x.planned(1, 0), -1);
         x = busyDay();
         x.sail();
         x.arrive();
