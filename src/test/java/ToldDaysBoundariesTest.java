@@ -504,21 +504,24 @@ public final class ToldDaysBoundariesTest extends Boundaries {
             FerryDeck x = threeLanes();
             car(x, 0);
             x.keep(0);
+            x.load(CAR, 20, 80, 5, 0);
             x.load(COACH, 20, 80, 5, 0);
-            x.load(CART, 10, 8, 0, 1);
-            x.drive(1, 2, 0);
+            x.load(CART, 10, 8, 0, 2);
             x.drive(2, 2, 0);
+            x.drive(3, 2, 0);
             x.back(0);
             due(1, x, "loads");
-            due(NUMBER, x, "drive", 1, 2, 0);
+            for (int load = 1; load < 4; load++) due(NUMBER, x, "drive", load, 2, 0);
             due(NUMBER, x, "load", CART, 10, 8, 0, 1);
             due(0, x, "least");
             due(-1, x, "planned", 1, 0);
-            due(1, x, "load", VAN, 10, 16, 1, 0);
             int[] want = {VAN, 1, 20, 2, 1, AT_QUAY, -1, -1, -1};
-            for (int what = 0; what < 9; what++) due(want[what], x, "of", 1, what);
-            due(2, x, "load", CART, 10, 8, 0, 1);
-            due(1, x, "drawer", 2);
+            for (int load = 1; load < 4; load++) {
+                due(load, x, "load", VAN, 10, 16, 1, 0);
+                for (int what = 0; what < 9; what++) due(want[what], x, "of", load, what);
+            }
+            due(4, x, "load", CART, 10, 8, 0, 2);
+            due(2, x, "drawer", 4);
             due(0, x, "ship", 3);
         });
     }
