@@ -11,7 +11,8 @@ import java.util.function.Supplier;
 
 /**
  * What the boundary tests share. A test is named by its promise and the sentence of the document that it holds the class
- * to; a refusal is always looked at on a ship with something of everything, so that what it may not change is seen.
+ * to. refuses() and finds() hold all that can be seen of a ship against what it was, mostly on one with something of
+ * everything, so that what a refusal may not change is seen.
  */
 abstract class Boundaries {
     static final int CAR = 1, VAN = 2, COACH = 3, CART = 4, ANIMAL = 5;
